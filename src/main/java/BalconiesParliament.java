@@ -714,27 +714,15 @@ public final class BalconiesParliament {
 
         static int weightOf(int kind, int figure, int height) {
             switch (kind) {
-                case WIDOW: return widowWeight(height);
+                case WIDOW: return 2 * height;
                 case MUTE: return figure / 3;
-                case TENANT: return tenantWeight(height);
-                case LODGER: return tenantWeight(height) / 2;
+                case TENANT: return height;
+                case LODGER: return height / 2;
                 case CHILD: return 9;
-                case OWNER: return widowWeight(height) + figure;
+                case OWNER: return 2 * height + figure;
                 case PRIEST: return 3 + figure / 2;
-                default: return speakerWeight(height);
+                default: return 1 + height;
             }
-        }
-
-        private static int speakerWeight(int height) {
-            return 1 + height;
-        }
-
-        private static int widowWeight(int height) {
-            return 2 * height;
-        }
-
-        private static int tenantWeight(int height) {
-            return speakerWeight(height) - 1;
         }
 
         static boolean isVeto(int kind, int mood) {
@@ -863,15 +851,11 @@ public final class BalconiesParliament {
         }
 
         boolean isHeard(int s) {
-            return !isShut(rail[s]);
-        }
-
-        int sideOf(int s) {
-            return rail[s] % 2;
+            return !isIn(shut, rail[s]);
         }
 
         int weightOf(int s) {
-            return weightAt(s, height[rail[s]]);
+            return Kinds.weightOf(kind[s], figure[s], height[rail[s]]);
         }
 
         int weightAt(int s, int h) {
@@ -928,35 +912,29 @@ public final class BalconiesParliament {
             return sum;
         }
 
-        boolean hasOneOn(int side, int group) {
+        /** Bits of the sides on which somebody of them stands. */
+        int sidesOf(int group) {
+            int sides = 0;
             for (int s = 0; s < people; s++) {
-                if (isIn(group, s) && sideOf(s) == side) {
-                    return true;
+                if (isIn(group, s)) {
+                    sides |= 1 << rail[s] % 2;
                 }
             }
-            return false;
+            return sides;
         }
 
         int weightFor(int heard) {
             return weightOfAll(heard & onesFor());
         }
 
-        boolean isVetoed(int heard) {
-            for (int s = 0; s < people; s++) {
-                if (isIn(heard, s) && Kinds.isVeto(kind[s], mood[s])) {
-                    return true;
-                }
-            }
-            return false;
-        }
-
         /** 0 if it carries with just these heard, else the first thing that hinders it. */
         int whyNot(int heard) {
             int ones = heard & onesFor();
-            if (!hasOneOn(0, ones)) {
+            int sides = sidesOf(ones);
+            if ((sides & 1) == 0) {
                 return 1;
             }
-            if (!hasOneOn(1, ones)) {
+            if ((sides & 2) == 0) {
                 return 2;
             }
             if (weightOfAll(ones) < needed) {
@@ -965,13 +943,22 @@ public final class BalconiesParliament {
             return isVetoed(heard) ? 4 : 0;
         }
 
+        private boolean isVetoed(int heard) {
+            for (int s = 0; s < people; s++) {
+                if (isIn(heard, s) && Kinds.isVeto(kind[s], mood[s])) {
+                    return true;
+                }
+            }
+            return false;
+        }
+
         boolean isCarried() {
             return whyNot(heardOnes()) == 0;
         }
 
         boolean isInSight(int s, int other) {
             int apart = Math.abs(height[rail[s]] - height[rail[other]]);
-            return sideOf(s) != sideOf(other) && apart <= 1;
+            return rail[s] % 2 != rail[other] % 2 && apart <= 1;
         }
 
         int twosInSight() {
@@ -1005,18 +992,13 @@ public final class BalconiesParliament {
         void startDays() {
             moving = true;
             for (int s = 0; s < people; s++) {
-                sight[s] = heardInSight(s);
-            }
-        }
-
-        private int heardInSight(int s) {
-            int ones = 0;
-            for (int other = 0; other < people; other++) {
-                if (isHeard(other) && isInSight(s, other)) {
-                    ones |= 1 << other;
+                sight[s] = 0;
+                for (int other = 0; other < people; other++) {
+                    if (isHeard(other) && isInSight(s, other)) {
+                        sight[s] |= 1 << other;
+                    }
                 }
             }
-            return ones;
         }
 
         /** Whether a mood changed on that day: once none does, none ever does in this run. */
@@ -1103,7 +1085,7 @@ public final class BalconiesParliament {
         }
 
         static boolean isCrossing(Street street, int group) {
-            return street.hasOneOn(0, group) && street.hasOneOn(1, group);
+            return street.sidesOf(group) == 3;
         }
 
         static boolean isTurnedBy(Street street, int group, int s) {
@@ -1386,16 +1368,15 @@ public final class BalconiesParliament {
         private static boolean isDone(Shelf text, int at, Street street) {
             int first = text.at(at + 1) - '0';
             int second = text.at(at + 2) - '0';
+            int number = 10 * first + second;
             switch (text.at(at)) {
                 case 'b': return isBuilt(street, first, second);
                 case 's': return isAdmitted(street, first, second, text.at(at + 3) - '0');
                 case 'f': return isThought(street, first, second);
                 case 'a': return isThought(street, first, -second);
-                case 'q': return isQuotaSet(street, 10 * first + second);
-                case 'd': return isLived(street, 10 * first + second);
-                default:
-                    street.turnShutter(first);
-                    return true;
+                case 'o': return isTurned(street, first);
+                case 'q': return isNeeded(street, number);
+                default: return isLived(street, number);
             }
         }
 
@@ -1408,7 +1389,7 @@ public final class BalconiesParliament {
         }
 
         private static boolean isAdmitted(Street street, int kind, int figure, int b) {
-            if (!isWithin(kind, 0, KINDS - 1) || !street.hasRoom()) {
+            if (!isWithin(kind, 0, KINDS - 1) || !isBalcony(b) || !street.hasRoom()) {
                 return false;
             }
             street.admit(kind, figure, b);
@@ -1423,11 +1404,19 @@ public final class BalconiesParliament {
             return true;
         }
 
-        private static boolean isQuotaSet(Street street, int v) {
-            if (!isWithin(v, 1, MOST_QUOTA)) {
+        private static boolean isTurned(Street street, int b) {
+            if (!isBalcony(b)) {
                 return false;
             }
-            street.needed = v;
+            street.turnShutter(b);
+            return true;
+        }
+
+        private static boolean isNeeded(Street street, int quota) {
+            if (!isWithin(quota, 1, MOST_QUOTA)) {
+                return false;
+            }
+            street.needed = quota;
             return true;
         }
 
@@ -1505,7 +1494,7 @@ public final class BalconiesParliament {
             switch (sort) {
                 case BYTES: return -128;
                 case SHORTS: return -32768;
-                default: return Integer.MIN_VALUE;
+                default: return -2147483648;
             }
         }
     }

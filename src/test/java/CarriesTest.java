@@ -56,6 +56,8 @@ public final class CarriesTest {
         x.thinks(2, -1);
         x.shuts(0);
         told(x, 1, 10, 0, 0);
+        x = Due.street("s600;s008;s009;f11;f21;a01;");
+        told(x, 0, 10, 0, 4);
         x = Due.street(carried + "s700;a25;");
         told(x, 0, 10, 0, 4);
         x.thinks(2, -4);

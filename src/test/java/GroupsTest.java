@@ -71,6 +71,11 @@ public final class GroupsTest {
         x = Due.street("q05;s008;s199;b90;s109;s009;");
         DUE.is("19: smallest", x.groups(0), 3);
         DUE.is("19: least ones", x.groups(1), 3);
+        // the same with him as number 0
+        x = Due.street("q05;b90;s109;s008;s009;");
+        DUE.is("19: least ones", x.groups(1), 2);
+        x = Due.street("q06;b90;b80;b10;s108;s007;s006;");
+        DUE.is("19: least ones without number 0", x.groups(1), 1);
     }
 
     private static void promise20() {
@@ -110,6 +115,8 @@ public final class GroupsTest {
         DUE.is("21: an owner's veto", x.win(1), 16);
         x = Due.street("q05;s008;s009;s008;s009;f01;f11;f21;f31;s000;");
         DUE.is("21: a side", x.win(1), 5);
+        x = Due.street("q13;s008;s009;s004;");
+        DUE.is("21: all of them", x.win(0), 7);
     }
 
     private static void promise22() {
@@ -153,6 +160,15 @@ public final class GroupsTest {
         DUE.is("23: shutter(61)", x.shutter(61), -1);
         DUE.is("23: shutter(-1)", x.shutter(-1), -1);
         DUE.is("23: only in mind", x.count(6), 0);
+        x = Due.street("q05;s008;s009;s007;f01;f11;f21;o9;o7;");
+        DUE.is("23: of several the least", x.shutter(5), 7);
+        // the speaker behind 3 is for it from the third day on, the widow behind 9 all the time
+        x = Due.street("q06;s008;s102;s003;s109;f09;f19;a22;f39;o3;");
+        x.shuts(9);
+        DUE.is("23: the one for most days", x.shutter(5), 9);
+        x.goes(3, 8);
+        DUE.is("23: the one for some days", x.shutter(5), 3);
+        DUE.is("23: not for 2 days", x.shutter(2), -4);
     }
 
     private static void promise24() {
@@ -165,6 +181,8 @@ public final class GroupsTest {
         DUE.is("24: it stays", x.count(2), 50);
         x = Due.street("s100;s101;f01;f11;");
         DUE.is("24: they weigh nothing", x.quotaMost(), -4);
+        x = Due.street("s000;s101;f01;f11;");
+        DUE.is("24: they weigh 1", x.quotaMost(), 1);
         x = Due.street("b07;b17;s690;s690;s690;s691;s691;s691;f01;f11;f21;f31;f41;");
         DUE.is("24: 99 at most", x.quotaMost(), 99);
         x.thinks(5, -1);

@@ -45,6 +45,9 @@ public final class LawTest {
         law(x, 8, 1, 8, 7, 1);
         law(x, 0, -4, -4, 3, 1);
         law(x, 99, 1, 99, 3, 0);
+        // weights 5 and 5, 4 beside them: one quota alone
+        x = Due.street("s008;s009;s006;");
+        law(x, 1, 10, 10, 3, 1, 6, 0);
         // weights 0 on both sides: no quota is so low
         x = Due.street("s100;s101;");
         law(x, 0, -4, -4, 3, 1);
@@ -149,6 +152,9 @@ public final class LawTest {
         // an owner leaning out votes for it, so that he never does
         x = Due.street("q06;s008;s600;s001;f05;a19;f25;");
         DUE.is("31: an owner in", x.two(0, 1), 10);
+        // of mood 0 he wouldn't have it
+        x = Due.street("q06;s008;s001;s001;f25;");
+        DUE.is("31: of mood 0", x.two(0, 1), 0);
         // each may turn it for both: the first such pair
         x = Due.street("q06;s008;s008;s001;f01;f11;f21;");
         DUE.is("31: the second leans out", x.two(0, 1), 1);

@@ -80,8 +80,10 @@ public final class MachineTest {
         }
         for (int d = 0; d < 8; d++) {
             all.append(x.cost(d)).append(' ').append(x.toss(d)).append(' ');
-            for (int i = 0; i < 101; i += 5) {
-                all.append(Due.element(x, d, i)).append(' ');
+            long element = x.cost(d) == -12 ? 0 : Oracle.ILLEGAL_STATE;
+            for (int i = 0; element != Oracle.ILLEGAL_STATE; i++) {
+                element = Due.element(x, d, i);
+                all.append(element).append(' ');
             }
         }
         return all.toString();

@@ -76,6 +76,10 @@ public final class RailsTest {
         DUE.is("27: a child", x.match(0), 0);
         DUE.is("27: a priest", x.match(1), 1);
         DUE.is("27: a widow", x.match(2), 8);
+        x.builds(0, 7);
+        DUE.is("27: the first rail", x.match(2), 0);
+        DUE.is("27: a child", x.match(0), 1);
+        DUE.is("27: weight", x.match(-1), 9 + 3 + 14);
     }
 
     private static void promise28() {

@@ -111,6 +111,10 @@ public final class ShelvesTest {
         DUE.is("44: a kind", x.copy(0, 0, 1, 0, 1), -12);
         DUE.is("44: a kind", x.copy(1, 0, 0, 0, 1), -12);
         DUE.is("44: a kind and nothing", x.copy(1, 0, 2, 0, 1), -11);
+        x.row(1, 1, 3);
+        x.keep(1, 1, 0, 0);
+        DUE.is("44: a kind where such a row was", x.copy(0, 0, 1, 0, 1), -12);
+        DUE.is("44: a kind where such a row was", x.copy(1, 0, 0, 0, 1), -12);
         Due.tell(x, 1, 2, 0, 0);
         DUE.is("44: another sort", x.copy(0, 0, 1, 0, 9), -12);
         Due.tell(x, 1, 1, 7, 8, 9, 10);

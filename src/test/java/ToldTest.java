@@ -107,6 +107,7 @@ public final class ToldTest {
             carried += carries;
         }
         DUE.so("36: some carry", carried > 5);
+        promise36Days();
         BalconiesParliament x = Due.street(twoWidows);
         DUE.is("36: streets(0, 1, 0)", x.streets(0, 1, 0), -1);
         DUE.is("36: streets(21, 1, 0)", x.streets(21, 1, 0), -1);
@@ -117,6 +118,53 @@ public final class ToldTest {
             x.shuts(b);
         }
         DUE.is("36: shutters stay", x.streets(20, 5, 1), 0);
+    }
+
+    /** All on one height, a lone tenant follows a widow across by 2 a day, on 5 days. */
+    private static void promise36Days() {
+        int moved = 0;
+        for (int seed = 1; seed < 60; seed++) {
+            BalconiesParliament x = level("s100;s300;q01;", 0);
+            int[] drawn = draws(seed, 10, 19, 10, 19);
+            int widow = drawn[1] - 9;
+            int tenant = drawn[3] - 9;
+            boolean across = drawn[0] % 2 != drawn[2] % 2;
+            int most = Math.max(-10, Math.min(10, widow - tenant));
+            int then = across ? tenant + most : tenant;
+            moved += then > 0 != tenant > 0 ? 1 : 0;
+            // at height 0 neither weighs anything
+            DUE.is("36: weights of 0", x.streets(1, seed, 1), 0);
+            x = level("s100;s300;q01;", 7);
+            DUE.is("36: for behind 5 days", x.streets(1, seed, 1), (widow > 0 ? 14 : 0) + (then > 0 ? 7 : 0));
+            DUE.is("36: carries", x.streets(1, seed, 0), across && widow > 0 && then > 0 ? 1 : 0);
+        }
+        DUE.so("36: some change sides", moved > 5);
+        edgeOfDays(-5, 9, 0);
+        edgeOfDays(-4, 9, 8);
+        edgeOfDays(5, -9, 0);
+        edgeOfDays(6, -9, 8);
+    }
+
+    private static BalconiesParliament level(String text, int height) {
+        BalconiesParliament x = Due.street(text);
+        for (int b = 0; b < 10; b++) {
+            x.builds(b, height);
+        }
+        return x;
+    }
+
+    /** A speaker goes by 1 a day: what he weighs for it shows whether there were just 5 of them. */
+    private static void edgeOfDays(int mood, int widow, int due) {
+        for (int seed = 0; seed < 200000; seed++) {
+            int[] drawn = draws(seed, 10, 19, 10, 19);
+            if (drawn[1] - 9 == widow && drawn[3] - 9 == mood && drawn[0] % 2 != drawn[2] % 2) {
+                BalconiesParliament x = level("s100;s000;", 7);
+                int all = due + (widow > 0 ? 14 : 0);
+                DUE.is("36: " + mood + " behind 5 days", x.streets(1, seed, 1), all);
+                return;
+            }
+        }
+        DUE.so("36: a seed for " + mood, false);
     }
 
     private static void promise37And38() {
@@ -157,6 +205,8 @@ public final class ToldTest {
         for (int what = 0; what < 7; what++) {
             DUE.is("39: count(" + what + ")", x.count(what), counts[what]);
         }
+        x.thinks(0, -1);
+        DUE.is("39: number 0 against", x.count(5), 11);
         x.thinks(0, 0);
         DUE.is("39: neither for", x.count(4), 4);
         DUE.is("39: nor against", x.count(5), 10);
