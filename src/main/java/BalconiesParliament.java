@@ -1319,7 +1319,7 @@ public final class BalconiesParliament {
             }
             int statements = 0;
             for (int at = 0; at < text.size; at += digitsBehind(text.at(at)) + 2) {
-                if (!isDone(text, at, street)) {
+                if (!tryStatement(text, at, street)) {
                     return -2000 - at;
                 }
                 statements++;
@@ -1365,22 +1365,23 @@ public final class BalconiesParliament {
             }
         }
 
-        private static boolean isDone(Shelf text, int at, Street street) {
+        /** Each try does what its statement says, or answers that it can't be done. */
+        private static boolean tryStatement(Shelf text, int at, Street street) {
             int first = text.at(at + 1) - '0';
             int second = text.at(at + 2) - '0';
             int number = 10 * first + second;
             switch (text.at(at)) {
-                case 'b': return isBuilt(street, first, second);
-                case 's': return isAdmitted(street, first, second, text.at(at + 3) - '0');
-                case 'f': return isThought(street, first, second);
-                case 'a': return isThought(street, first, -second);
-                case 'o': return isTurned(street, first);
-                case 'q': return isNeeded(street, number);
-                default: return isLived(street, number);
+                case 'b': return tryHeight(street, first, second);
+                case 's': return tryToAdmit(street, first, second, text.at(at + 3) - '0');
+                case 'f': return tryMood(street, first, second);
+                case 'a': return tryMood(street, first, -second);
+                case 'o': return tryShutter(street, first);
+                case 'q': return tryQuota(street, number);
+                default: return tryDays(street, number);
             }
         }
 
-        private static boolean isBuilt(Street street, int b, int height) {
+        private static boolean tryHeight(Street street, int b, int height) {
             if (!isBalcony(b) || !isWithin(height, 0, MOST_HEIGHT)) {
                 return false;
             }
@@ -1388,7 +1389,7 @@ public final class BalconiesParliament {
             return true;
         }
 
-        private static boolean isAdmitted(Street street, int kind, int figure, int b) {
+        private static boolean tryToAdmit(Street street, int kind, int figure, int b) {
             if (!isWithin(kind, 0, KINDS - 1) || !isBalcony(b) || !street.hasRoom()) {
                 return false;
             }
@@ -1396,7 +1397,7 @@ public final class BalconiesParliament {
             return true;
         }
 
-        private static boolean isThought(Street street, int s, int mood) {
+        private static boolean tryMood(Street street, int s, int mood) {
             if (!street.isThere(s)) {
                 return false;
             }
@@ -1404,7 +1405,7 @@ public final class BalconiesParliament {
             return true;
         }
 
-        private static boolean isTurned(Street street, int b) {
+        private static boolean tryShutter(Street street, int b) {
             if (!isBalcony(b)) {
                 return false;
             }
@@ -1412,7 +1413,7 @@ public final class BalconiesParliament {
             return true;
         }
 
-        private static boolean isNeeded(Street street, int quota) {
+        private static boolean tryQuota(Street street, int quota) {
             if (!isWithin(quota, 1, MOST_QUOTA)) {
                 return false;
             }
@@ -1420,7 +1421,7 @@ public final class BalconiesParliament {
             return true;
         }
 
-        private static boolean isLived(Street street, int n) {
+        private static boolean tryDays(Street street, int n) {
             if (!isWithin(n, 1, MOST_DAYS) || !street.hasDaysLeft(n)) {
                 return false;
             }

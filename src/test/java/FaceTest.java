@@ -66,14 +66,21 @@ public final class FaceTest {
         for (Method m : c.getDeclaredMethods()) {
             boolean either = Modifier.isPublic(m.getModifiers()) || Modifier.isPrivate(m.getModifiers());
             DUE.so(m.getName() + " is public or private", either);
+            boolean named = faceNames().contains(m.getName());
+            DUE.so(m + " is of the face or has no name of it", Modifier.isPublic(m.getModifiers()) == named);
         }
     }
 
-    private static void nestedClasses() {
+    private static Set<String> faceNames() {
         Set<String> names = new HashSet<>();
         for (String f : FACE) {
             names.add(f.substring(f.indexOf(' ') + 1, f.indexOf('(')));
         }
+        return names;
+    }
+
+    private static void nestedClasses() {
+        Set<String> names = faceNames();
         Class<?>[] inside = BalconiesParliament.class.getDeclaredClasses();
         DUE.so("some twelve classes", inside.length <= 12);
         for (Class<?> c : inside) {
