@@ -45,12 +45,12 @@ public final class MachineTest {
             for (int i = 0; i < 5; i++) {
                 a[i] = chance.nextInt(3) == 0 ? EDGES[chance.nextInt(EDGES.length)] : chance.nextInt(10);
             }
-            String before = told(x);
+            String before = State.of(x);
             long answer = ask(x, name, a);
             boolean refused = answer < 0 && answer != Long.MIN_VALUE && !name.equals("thinks")
                 || answer == 1000000001;
             if (refused || LOOKING.contains(" " + name + " ")) {
-                DUE.so(name + " changes nothing", told(x).equals(before));
+                DUE.so(name + " changes nothing", State.of(x).equals(before));
             }
         }
     }
@@ -62,30 +62,5 @@ public final class MachineTest {
             DUE.so(name + java.util.Arrays.toString(a) + " threw " + thrown, false);
             return Long.MIN_VALUE;
         }
-    }
-
-    /** All that can be asked of the state without changing it. */
-    private static String told(BalconiesParliament x) {
-        StringBuilder all = new StringBuilder();
-        for (int what = 0; what < 7; what++) {
-            all.append(x.count(what)).append(' ');
-        }
-        for (int b = 0; b < 10; b++) {
-            all.append(x.balcony(b, 0)).append(' ');
-        }
-        for (int s = 0; s < 7; s++) {
-            for (int what = 0; what < 4; what++) {
-                all.append(x.speaker(s, what)).append(' ');
-            }
-        }
-        for (int d = 0; d < 8; d++) {
-            all.append(x.cost(d)).append(' ').append(x.toss(d)).append(' ');
-            long element = x.cost(d) == -12 ? 0 : Oracle.ILLEGAL_STATE;
-            for (int i = 0; element != Oracle.ILLEGAL_STATE; i++) {
-                element = Due.element(x, d, i);
-                all.append(element).append(' ');
-            }
-        }
-        return all.toString();
     }
 }
